@@ -386,6 +386,7 @@ public final class ZMemory {
         private static final int BY_COUNT = 1;
         private static final int BY_TAPE = 2;
         private static final int LOWEST_SEED = 1000;
+        private static final int LOWEST_31_BITS = 0x7FFFFFFF;
 
         private final int[] numbers = new int[MOST_TAPE];
         private int first;
@@ -443,7 +444,7 @@ public final class ZMemory {
         }
 
         private int nextOfSeed() {
-            seed = seed * 1103515245 + 12345 & Integer.MAX_VALUE;
+            seed = seed * 1103515245 + 12345 & LOWEST_31_BITS;
             return seed >>> 16;
         }
     }

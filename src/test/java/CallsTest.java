@@ -29,6 +29,8 @@ public final class CallsTest {
             in(21, variable(5))).routine(0, 0, 0, false).routine(1, 3, 5, false).runs(0, 0, 0, 0).told(1, 1).left(1, 2);
         story("lowest 16 bits", in(1, variable(1), variable(2), 0, 0), in(21, STACK)).routine(0, 0, 2, false)
             .runs(0, 65536 + 5, -1, 0).told(1, 6);
+        story("WORDS of a and b", in(10, variable(1), 5, 2, -1), in(21, 1), in(10, variable(2), 65535, 4, -1), in(21, 2),
+            in(21, 3)).routine(0, 0, 2, false).runs(0, 65536 + 5, -1, 0).told(1, 3);
         story("a caller's LOCALS stay", in(20, 1, 50, 60, 3), in(0, variable(1), variable(2), 0, 1), in(21, variable(1)),
             in(0, 1, 1, 0, 1), in(0, 1, 1, 0, 2), in(21, 0)).routine(0, 0, 3, false).routine(1, 3, 3, false)
             .runs(0, 7, 9, 0).told(1, 16);

@@ -34,6 +34,8 @@ public final class CopyTest {
         copied(0, 20, 1, -12);
         copied(20, 15, 1, -12);
         copied(18, 14, 3, -12);
+        copied(0, 19, 1, -13);
+        copied(0, 17, 3, -13);
         copied(1, 1, 32767, -12);
         copied(65535, 1, 1, -12);
         copied(1, 65535, 1, -12);
@@ -60,6 +62,7 @@ public final class CopyTest {
     private static void inTurn() {
         copied(0, 1, -4, 1, 1, 1, 1, 1, 1);
         copied(2, 1, -2, 1, 1, 3, 4);
+        zeroInTurn();
         copied(0, 13, -3, -13, 1, 2, 3, 4, 5, 6, 7, 8, 9, 10, 11, 12, 13, 1, 2);
         copied(18, 1, -3, -12, 1, 19, 20);
         copied(19, 14, -2, -12, 1, 2, 3, 4, 5, 6, 7, 8, 9, 10, 11, 12, 13, 14, 20);
@@ -68,6 +71,14 @@ public final class CopyTest {
         copied(20, 15, -1, -12);
         copied(0, 1, -32768, -13, 1, 1, 1, 1, 1, 1, 1, 1, 1, 1, 1, 1, 1, 1, 1);
         copied(0, 1, 65534, 1, 1, 1, 1);
+    }
+
+    private static void zeroInTurn() {
+        ZMemory z = new ZMemory();
+        z.size(4, 4);
+        z.put(2, 9, false, false);
+        DUE.is("copy(0, 2, -2) of zeros", z.copy(0, 2, -2), 1);
+        DUE.is("copy(0, 2, -2) of zeros, then get(2)", z.get(2, false), 0);
     }
 
     public static void main(String[] args) {

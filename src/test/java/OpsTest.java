@@ -39,6 +39,7 @@ public final class OpsTest {
         returns("OP 7 has one OPERAND", -6, in(7, 5, STACK, STACK, 0), RETURN_STACK);
         returns("OP 8", -3, in(8, 65531, 65535, STACK, 0), RETURN_STACK);
         returns("OP 9", 32767, in(9, 65535, 65535, 0, 0), RETURN_STACK);
+        returns("OP 9 gives a WORD", 2, in(9, 65535, 1, 0, 3), in(10, variable(3), 65534, 3), in(21, 1), in(21, 2));
         faults("OP 3 by 0", 1, in(3, 7, 0, 0, 0));
         faults("OP 4 by 0", 1, in(4, 7, 0, 0, 0));
         returns("the uppermost is the first OPERAND", 7, in(22, 3), in(22, 10), in(1, STACK, STACK, 0, 0), RETURN_STACK);
