@@ -127,7 +127,7 @@ public final class ZMemory {
         if (!isWithin(form, HIGHEST_BYTE)) {
             return BAD;
         }
-        return memory.find(word(v), word(x), number(n), form);
+        return memory.find(v, x, n, form);
     }
 
     public int random(int r) {
@@ -363,10 +363,11 @@ public final class ZMemory {
             return DONE;
         }
 
+        /** None of v, x, n is cut: what is no WORD is like no entry, and n below 0 has none. */
         int find(int v, int x, int n, int form) {
             int width = form & 127;
-            // Entries of 0 bytes are all at x, so the first one tells for all of them.
-            int entries = width == 0 ? Math.min(n, 1) : n;
+            // Entries of 0 bytes are all at x, so the first tells for all; else the last of these is OUTSIDE.
+            int entries = Math.min(n, width == 0 ? 1 : MOST_BYTES + 1);
             for (int i = 0; i < entries; i++) {
                 int at = x + i * width;
                 int here = form > 127 ? wordAt(at) : byteAt(at);

@@ -5,11 +5,17 @@ final class Due {
     }
 
     private int wrong = 0;
+    private String sentence = "";
+
+    /** What follows holds this sentence of the document. */
+    void about(String words) {
+        sentence = "\"" + words + "\": ";
+    }
 
     void is(String what, int got, int want) {
         if (got != want) {
             wrong++;
-            System.out.println(what + " answered " + got + ", due is " + want);
+            System.out.println(sentence + what + " answered " + got + ", due is " + want);
         }
     }
 
@@ -24,7 +30,7 @@ final class Due {
             got = "threw " + e.getClass().getName();
         }
         wrong++;
-        System.out.println(what + " " + got + ", due is " + want.getName());
+        System.out.println(sentence + what + " " + got + ", due is " + want.getName());
     }
 
     void end() {

@@ -34,9 +34,6 @@ public final class LookTest {
         due.is("entries of 0 bytes, outside", z.look(6, 20, 1, 128), -12);
         due.is("FORM 255", z.look(0x0102, 0, 1, 255), 0);
         due.is("FORM 255 from 1", z.look(0x0203, 1, 1, 255), 1);
-        due.is("lowest 16 bits of v", z.look(65536 + 7, 0, 20, 1), 6);
-        due.is("lowest 16 bits of x", z.look(7, 65536 + 3, 20, 1), 6);
-        due.is("n is a NUMBER", z.look(7, 0, 65535, 1), 0);
         due.is("FORM 256", z.look(1, 0, 1, 256), -2);
         due.is("FORM -1", z.look(1, 0, 1, -1), -2);
         due.is("FORM ahead of a FAULT", z.look(1, 500, 1, Integer.MIN_VALUE), -2);

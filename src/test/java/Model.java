@@ -161,16 +161,20 @@ final class Model {
             return -2;
         }
         try {
-            return lookFor(v & 65535, x & 65535, (short) n, f);
+            return lookFor(v, x, n, f);
         } catch (Fault fault) {
             return -10 - fault.number;
         }
     }
 
     private int lookFor(int v, int x, int n, int f) {
-        for (int i = 0; i < n; i++) {
-            if (peek(x + i * (f % 128), f / 128 == 1) == v) {
-                return x + i * (f % 128);
+        for (long i = 0; i < n; i++) {
+            long at = x + i * (f % 128);
+            if (peek(at, f / 128 == 1) == v) {
+                return (int) at;
+            }
+            if (f % 128 == 0) {
+                return 0;
             }
         }
         return 0;

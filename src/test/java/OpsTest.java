@@ -21,11 +21,11 @@ public final class OpsTest {
     }
 
     private static Story returns(String name, int want, int[]... instructions) {
-        return new Story(DUE, name, instructions).routine(0, 0, 3, false).runs(0, 7, 9, 0).told(1, want).told(2, 0);
+        return Story.returning(DUE, name, want, instructions);
     }
 
     private static Story faults(String name, int want, int[]... instructions) {
-        return new Story(DUE, name, instructions).routine(0, 0, 3, false).runs(0, 7, 9, 2).told(1, 0).told(2, want);
+        return Story.faulting(DUE, name, want, instructions);
     }
 
     private static void arithmetic() {

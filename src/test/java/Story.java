@@ -18,6 +18,16 @@ final class Story {
         }
     }
 
+    /** ROUTINE 0 of 3 LOCALS, run with 7 and 9, returns. */
+    static Story returning(Due due, String name, int want, int[]... instructions) {
+        return new Story(due, name, instructions).routine(0, 0, 3, false).runs(0, 7, 9, 0).told(1, want).told(2, 0);
+    }
+
+    /** ROUTINE 0 of 3 LOCALS, run with 7 and 9, ends by a FAULT. */
+    static Story faulting(Due due, String name, int want, int[]... instructions) {
+        return new Story(due, name, instructions).routine(0, 0, 3, false).runs(0, 7, 9, 2).told(1, 0).told(2, want);
+    }
+
     static int variable(int k) {
         return -1 - k;
     }
