@@ -4,13 +4,16 @@ import java.util.Random;
 public final class ModelTest {
     private static final int[] ODD = {0, 1, -1, 2, 255, 256, 999, 1000, 1001, 2000, 2001, 32767, 32768, -32767, -32768, -32769,
         65535, 65536, 65537, -65536, 100000, Integer.MAX_VALUE, Integer.MIN_VALUE};
-    private static final int OBJECTS = 6000;
-    private static final int CALLS = 160;
+    private static final int OBJECTS = 30000;
+    /** An object is promised for 512 calls; what a call and the looks after it use at most is kept back. */
+    private static final int CALLS = 512 - 250;
+    private static final int LOOKED_AT = 64;
 
     private final Random random;
     private final ZMemory z = new ZMemory();
     private final Model m = new Model();
     private final StringBuilder calls = new StringBuilder();
+    private int used = 0;
 
     private ModelTest(long seed) {
         random = new Random(seed);
@@ -38,6 +41,7 @@ public final class ModelTest {
     }
 
     private boolean same(String call, int got, int want) {
+        used++;
         calls.append(call).append(" = ").append(got).append('\n');
         if (got == want) {
             return true;
@@ -133,7 +137,8 @@ public final class ModelTest {
     }
 
     private boolean sameMemory() {
-        for (int i = 0; i < m.memory.length; i++) {
+        for (int i = 0; i < m.memory.length && i < LOOKED_AT; i++) {
+            used++;
             if (z.get(i, false) != m.memory[i]) {
                 return same("get(" + i + ", false)", z.get(i, false), m.memory[i]);
             }
@@ -228,7 +233,7 @@ public final class ModelTest {
                 return false;
             }
         }
-        for (int i = 0; i < CALLS; i++) {
+        while (used < CALLS) {
             if (!call()) {
                 return false;
             }
