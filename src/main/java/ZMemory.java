@@ -363,7 +363,10 @@ public final class ZMemory {
             return DONE;
         }
 
-        /** None of v, x, n is cut: what is no WORD is like no entry, and n below 0 has none. */
+        /**
+         * None of v, x, n is cut or read as a NUMBER, as the term does not say so: what is no WORD is like no
+         * entry, and n can be below 0 (none) for look() alone, not as an OPERAND.
+         */
         int find(int v, int x, int n, int form) {
             int width = form & 127;
             // Entries of 0 bytes are all at x, so the first tells for all; else the last of these is OUTSIDE.
@@ -736,7 +739,7 @@ public final class ZMemory {
                 case CATCH: return tell(into, frames.count - 1);
                 case THROW: return throwTo(b, a);
                 case COPY: return memory.copyTable(a, b, number(c));
-                case LOOK: return tell(into, memory.find(a, b, number(c), form));
+                case LOOK: return tell(into, memory.find(a, b, c, form));
                 case RANDOM: return tell(into, chance.draw(number(a)));
                 case PRINT_NUMBER: return page.printNumber(number(a));
                 case PRINT_CHARACTER: return page.print(a);

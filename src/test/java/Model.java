@@ -484,7 +484,7 @@ final class Model {
                 }
                 case 26 -> copyTable(a, b, nc);
                 case 27 -> {
-                    return lookFor(a, b, nc, form);
+                    return lookFor(a, b, c, form);
                 }
                 case 28 -> {
                     return random(a);

@@ -95,6 +95,10 @@ public final class ModelTest {
         } else if (op == 26 && !one(4)) {
             b = one(4) ? 0 : below(50);
             c = small();
+        } else if (op == 27 && !one(4)) {
+            a = one(2) ? 0 : small();
+            b = below(62);
+            c = one(2) ? below(12) : small();
         }
         int store = store();
         return same("instruction(" + op + ", " + a + ", " + b + ", " + c + ", " + store + ")",

@@ -117,7 +117,8 @@ public final class OpsTest {
         faults("OP 26 OUTSIDE", 2, in(26, 0, 58, 3));
         returns("OP 27, by FORM 130", 12, in(18, 12, 0, 4660), in(27, 4660, 10, 3, 0), RETURN_STACK);
         returns("OP 27, none", 0, in(18, 12, 0, 4660), in(27, 4660, 10, 1, 0), RETURN_STACK);
-        returns("OP 27, less than none", 0, in(27, 0, 10, 65535, 0), RETURN_STACK);
+        returns("OP 27, no entries", 0, in(27, 0, 10, 0, 0), RETURN_STACK);
+        returns("OP 27, 65535 entries", 10, in(27, 0, 10, 65535, 0), RETURN_STACK);
         faults("OP 27 OUTSIDE", 2, in(27, 1, 58, 2, 0));
         Story byForm = new Story(DUE, "OP 27, by FORM 3", in(19, 13, 0, 5), in(27, 5, 10, 3, 0), RETURN_STACK);
         byForm.z.form(3);

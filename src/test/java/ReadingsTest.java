@@ -54,15 +54,51 @@ public final class ReadingsTest {
         DUE.is("n MIN is less", z.look(7, 0, Integer.MIN_VALUE, 1), 0);
     }
 
-    /** An OPERAND can be less than 0 as a NUMBER alone; else "less: none" would say nothing of OP 27. */
-    private static void entriesOfAnOpAreANumber() {
-        DUE.about("27 tells where a is LOOKED for from b on among c entries (less: none)");
-        Story.returning(DUE, "c 65535", 0, in(27, 0, 10, 65535, 0), RETURN_STACK);
-        Story.returning(DUE, "c 32768", 0, in(27, 0, 10, 32768, 0), RETURN_STACK);
+    /**
+     * An OPERAND is a WORD, and the document says where one is a NUMBER: not here, though it does of COPY's n and of
+     * b, c of OP 31. "less: none" is said of n of look(), which is any int.
+     */
+    private static void entriesOfAnOpAreAWord() {
+        DUE.about("27 tells where a is LOOKED for from b on among c entries");
+        Story.returning(DUE, "c 0", 0, in(27, 0, 10, 0, 0), RETURN_STACK);
         Story.returning(DUE, "c 32767", 10, in(27, 0, 10, 32767, 0), RETURN_STACK);
-        Story.returning(DUE, "c 65535, OUTSIDE", 0, in(27, 0, 60, 65535, 0), RETURN_STACK);
+        Story.returning(DUE, "c 32768", 10, in(27, 0, 10, 32768, 0), RETURN_STACK);
+        Story.returning(DUE, "c 65535", 10, in(27, 0, 10, 65535, 0), RETURN_STACK);
+        Story.returning(DUE, "c 0 of what is OUTSIDE", 0, in(27, 0, 60, 0, 0), RETURN_STACK);
+        Story.faulting(DUE, "c 65535, OUTSIDE", 2, in(27, 0, 60, 65535, 0), RETURN_STACK);
         Story.faulting(DUE, "c 32767, not there", 2, in(27, 1, 10, 32767, 0), RETURN_STACK);
+        Story.faulting(DUE, "c 32768, not there", 2, in(27, 1, 10, 32768, 0), RETURN_STACK);
+        Story.faulting(DUE, "c 65535 that ARITHMETIC told", 2, in(1, 0, 1, 0, 0), in(27, 1, 10, STACK, 0), RETURN_STACK);
         Story.returning(DUE, "a 65535 is a WORD", 10, in(18, 10, 0, 65535, -1), in(27, 65535, 10, 1, 0), RETURN_STACK);
+    }
+
+    /** The OP and the call go by the one term, so they answer alike wherever both can be asked. */
+    private static void opAndCallLookAlike() {
+        DUE.about("TO LOOK, by OP 27 and by look()");
+        int[] values = {0, 1, 7, 20, 99, 0x0102, 0x0708, 0x1314, 65535};
+        int[] places = {0, 1, 6, 18, 19, 20, 65535};
+        int[] entries = {0, 1, 2, 7, 20, 21, 32767, 32768, 32769, 65534, 65535};
+        int[] forms = {0, 1, 2, 127, 128, 129, 130, 255};
+        for (int form : forms) {
+            for (int v : values) {
+                for (int x : places) {
+                    for (int n : entries) {
+                        lookedAlike(v, x, n, form);
+                    }
+                }
+            }
+        }
+    }
+
+    private static void lookedAlike(int v, int x, int n, int form) {
+        ZMemory z = twenty();
+        z.form(form);
+        z.instruction(27, v, x, n, 0);
+        z.instruction(21, STACK, 0, 0, -1);
+        z.routine(0, 0, 0, false);
+        int ended = z.run(0, 0, 0);
+        int told = ended == 0 ? z.told(1) : -10 - z.told(2);
+        DUE.is("OP 27 of " + v + ", " + x + ", " + n + " by FORM " + form, told, z.look(v, x, n, form));
     }
 
     private static void wiped(String what, int x, int n, int answer, int from, int to) {
@@ -133,7 +169,8 @@ public final class ReadingsTest {
 
     public static void main(String[] args) {
         lookCutsNothing();
-        entriesOfAnOpAreANumber();
+        entriesOfAnOpAreAWord();
+        opAndCallLookAlike();
         toZeroIsAskedBefore();
         rowsOfNoBytes();
         throwToNoFrameCountsOnce();
